@@ -123,6 +123,8 @@ public final class TruckLoadsPromises {
         for (int wrong : new int[] {LEAST, -1, 3, 12, MOST}) {
             check.refused("2 cell " + wrong, INDEX, () -> cellSet(x, wrong, 5, true));
             check.refused("2 cell first " + wrong, INDEX, () -> cellSet(x, wrong, 0, true));
+            check.same("2 thrown by the class, not by the machine", "no such cell",
+                    Check.thrownText(() -> cellSet(x, wrong, 5, true)));
         }
         for (int wrong : new int[] {LEAST, 0, 11, MOST}) {
             check.refused("2 height " + wrong, ARGUMENT, () -> cellSet(x, 1, wrong, true));
@@ -130,11 +132,6 @@ public final class TruckLoadsPromises {
         }
         check.refused("2 a pallet stands there", STATE, () -> cellSet(x, 0, 10, false));
         check.due("2 none stands there", "done", () -> cellSet(x, 1, 10, false));
-        try {
-            x.cell(3, 1, false);
-        } catch (ArrayIndexOutOfBoundsException e) {
-            check.same("2 thrown by the class, not by the machine", "no such cell", e.getMessage());
-        }
     }
 
     private static void axles() {
@@ -266,6 +263,7 @@ public final class TruckLoadsPromises {
         check.due("5 by rule for more pallets than told", 4, () -> x.solve(3));
         check.due("5 by stops, then by number, none in front of another", "4 2 5 1", () -> cells(x));
         check.due("5 by rule for none", 4, () -> x.solve(0));
+        check.due("5 by rule anew, the same", "4 2 5 1", () -> cells(x));
         x.axles(0, 10, 0, 0);
         check.due("5 by rule whatever the axles bear", 4, () -> x.solve(3));
         check.due("5 exactly for as many", 0, () -> x.solve(4));
@@ -451,6 +449,8 @@ public final class TruckLoadsPromises {
         plain(x, 7, 1);
         check.refused("10 no pallet stands", ARITHMETIC, () -> x.axle(0, 0));
         check.refused("10 its lower number neither", ARITHMETIC, () -> x.axle(1, 1));
+        check.same("10 thrown by the class, not by the machine", "no pallet stands",
+                Check.thrownText(() -> x.axle(0, 0)));
         int[][] wrong = {{-1, 0}, {2, 0}, {0, -1}, {0, 2}, {LEAST, 0}, {MOST, 0}, {1, LEAST}, {1, MOST}};
         for (int[] row : wrong) {
             check.refused("10 numbers first " + row[0] + " " + row[1], ARGUMENT, () -> x.axle(row[0], row[1]));

@@ -7,12 +7,21 @@ final class Check {
     private int asked = 0;
     private int wrong = 0;
 
-    /** What a call answers, or throws.Name with its text, so that the two can be compared alike. */
+    /** What a call answers, or throws.Name, so that answers and refusals are compared alike. */
     static String answer(Call call) {
         try {
             return String.valueOf(call.run());
         } catch (RuntimeException e) {
             return "throws." + e.getClass().getSimpleName();
+        }
+    }
+
+    /** The text of what a call throws: the class writes its own, the machine's are others. */
+    static String thrownText(Call call) {
+        try {
+            return "answered " + call.run();
+        } catch (RuntimeException e) {
+            return String.valueOf(e.getMessage());
         }
     }
 
